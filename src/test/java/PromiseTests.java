@@ -139,6 +139,7 @@ public final class PromiseTests {
         is("tell again", laws.tell(3, 1, 2), 2);
         is("each one is saved", laws.count(7), 3);
         same("order", toldIn(laws), "axy;d12");
+        same("they are found, too", foundIn(laws), "axy;d12");
         for (int predicate = 0; predicate < 4; predicate++) {
             for (int pair : PAIRS) {
                 FollowedLaws one = new FollowedLaws();
@@ -391,6 +392,19 @@ public final class PromiseTests {
         same("undo takes the latest", toldIn(laws), "a00;a11");
         laws.undo();
         same("and then the one from before", toldIn(laws), "a00");
+        undoOfMany();
+    }
+
+    private static void undoOfMany() {
+        FollowedLaws laws = new FollowedLaws();
+        for (int k = 0; k < 11; k++) {
+            laws.tell(k / 4, k % 4, 0);
+        }
+        for (int left = 5; left >= 0; left--) {
+            is("undo of many", laws.undo(), left);
+            is("told", laws.count(0), left + 5);
+            is("the last one", laws.told(left + 4), 64 * ((left + 4) / 4) + 8 * ((left + 4) % 4));
+        }
     }
 
     private static void told() {
@@ -467,6 +481,9 @@ public final class PromiseTests {
         finds("axx;cxy<axz&ayw", "axx;cxy");
         finds("axx;cxz<axy&ayz", "axx;cxx");
         finds("axy;cxz<axy&ayz", "axy;cxy");
+        finds("axy;bxy;cyz<axy&bzw", "axy;bxy;cxy");
+        finds("axy;bxy;czw<axy&bzw", "axy;bxy;cxy");
+        finds("axy;bxy;cxw<axy&byw", "axy;bxy;cxy");
         finds("axx;b01;cxy<axy&bx1", "axx;b01;c00");
         finds("axx;bx1;cxy<axy&bx1", "axx;bx1;cxx");
         finds("axx;bxx;cxz<axy&byz", "axx;bxx;cxx");
@@ -689,6 +706,7 @@ public final class PromiseTests {
         digestIs("a0~!", "a01;a12;a23;axz<axy&ayz;bxy<ayx");
         digestIs("", "a00;b0x<a00");
         digestIs("x", "a00;b00;c00<a00");
+        digestIs("", "axy;bxy;cxy;dxx;d01<axx");
         digestIs("", "a0x;ax0;axx;bxy<axx", "c1x;dxx<c12;dw3<ayy&bzz");
         digestIs("a", "axy", "b00", "c11", "d22", "a00", "a01", "a02");
         for (int told = 1; told <= 16; told++) {
