@@ -1,14 +1,5 @@
-import java.util.function.IntSupplier;
-
 /** For each promise of the document what it says of ordinary inputs, edges and wrong inputs. */
-public final class PromiseTests {
-    private static final int NONE = FollowedLaws.NONE;
-    private static final int[] PAIRS = {0, 1, 2, 3, 4, 8, 9, 10, 11, 12, 16, 17, 18, 19, 20,
-        24, 25, 26, 27, 28, 32, 33, 34, 35, 36, 37};
-    private static int promise;
-    private static int passed;
-    private static int failed;
-
+public final class PromiseTests extends Checks {
     public static void main(String[] args) {
         Runnable[] tests = {PromiseTests::newObject, PromiseTests::tell, PromiseTests::untell,
             PromiseTests::rule, PromiseTests::joining, PromiseTests::remove, PromiseTests::settle,
@@ -17,9 +8,9 @@ public final class PromiseTests {
             PromiseTests::count, PromiseTests::follows, PromiseTests::instances, PromiseTests::behind,
             PromiseTests::without, PromiseTests::spare, PromiseTests::richest, PromiseTests::byRules,
             PromiseTests::digest};
-        for (Runnable test : tests) {
-            promise++;
-            test.run();
+        for (int promise = 1; promise <= tests.length; promise++) {
+            about = "promise " + promise;
+            tests[promise - 1].run();
         }
         System.out.println("PromiseTests: " + passed + " passed, " + failed + " failed");
         if (failed != 0) {
@@ -29,82 +20,6 @@ public final class PromiseTests {
 
     // ---- helpers
 
-    private static void is(String what, double got, double want) {
-        if (got == want) {
-            passed++;
-            return;
-        }
-        failed++;
-        System.out.println("promise " + promise + ": " + what + " is " + got + ", due is " + want);
-    }
-
-    /** The call throws just this exception and changes nothing. */
-    private static void refuses(FollowedLaws laws, String what, Class<?> error, IntSupplier call) {
-        long ahead = laws.digest();
-        String got;
-        try {
-            got = "" + call.getAsInt();
-        } catch (RuntimeException e) {
-            got = e.getClass().getSimpleName();
-        }
-        boolean fits = got.equals(error.getSimpleName()) && laws.digest() == ahead;
-        passed += fits ? 1 : 0;
-        failed += fits ? 0 : 1;
-        if (!fits) {
-            System.out.println("promise " + promise + ": " + what + " answers " + got + ", due is "
-                    + error.getSimpleName() + (laws.digest() == ahead ? "" : "; and it changed something"));
-        }
-    }
-
-    private static final Class<?> ARGUMENT = IllegalArgumentException.class;
-    private static final Class<?> STATE = IllegalStateException.class;
-    private static final Class<?> INDEX = IndexOutOfBoundsException.class;
-
-    private static void type(FollowedLaws laws, String text) {
-        for (char sign : text.toCharArray()) {
-            laws.append(sign);
-        }
-    }
-
-    /** New laws with the laws of these texts. */
-    private static FollowedLaws laws(String... texts) {
-        FollowedLaws laws = new FollowedLaws();
-        for (String text : texts) {
-            type(laws, text);
-            laws.read();
-        }
-        return laws;
-    }
-
-    /** The facts that are found at the end, as texts. */
-    private static String foundIn(FollowedLaws laws) {
-        StringBuilder all = new StringBuilder();
-        for (int place = 0; laws.found(place, 0) != NONE; place++) {
-            all.append(place == 0 ? "" : ";").append(Model.text(laws.found(place, 0)));
-        }
-        return all.toString();
-    }
-
-    private static String toldIn(FollowedLaws laws) {
-        StringBuilder all = new StringBuilder();
-        for (int place = 0; laws.told(place) != NONE; place++) {
-            all.append(place == 0 ? "" : ";").append(Model.text(laws.told(place)));
-        }
-        return all.toString();
-    }
-
-    private static void same(String what, String got, String want) {
-        is(what + " " + got + ", due " + want, got.equals(want) ? 1 : 0, 1);
-    }
-
-    private static void finds(String text, String found) {
-        same("found in " + text + ":", foundIn(laws(text)), found);
-    }
-
-    private interface FactCall {
-        int ask(int predicate, int first, int second);
-    }
-
     /** All that is no fact is refused; all 104 facts are not. */
     private static void asksForFacts(FollowedLaws laws, String name, FactCall call) {
         int[][] wrong = {{-1, 0, 0}, {4, 0, 0}, {0, -1, 0}, {0, 5, 0}, {0, 5, 4}, {0, 5, 5}, {0, 6, 4}, {0, 0, -1},
@@ -113,7 +28,7 @@ public final class PromiseTests {
             {0, Integer.MAX_VALUE, 0}, {0, 0, Integer.MIN_VALUE}, {0, 4, Integer.MAX_VALUE}};
         for (int[] f : wrong) {
             refuses(laws, name + "(" + f[0] + ", " + f[1] + ", " + f[2] + ")", ARGUMENT,
-                    () -> call.ask(f[0], f[1], f[2]));
+                    made -> call.on(made, f[0], f[1], f[2]));
         }
     }
 
@@ -128,8 +43,8 @@ public final class PromiseTests {
         is("told(0)", laws.told(0), NONE);
         is("found(0, 0)", laws.found(0, 0), NONE);
         is("clearBuffer()", laws.clearBuffer(), 0);
-        refuses(laws, "undo()", STATE, laws::undo);
-        refuses(laws, "partOf(0, 0)", INDEX, () -> laws.partOf(0, 0));
+        refuses(laws, "undo()", STATE, FollowedLaws::undo);
+        refuses(laws, "partOf(0, 0)", INDEX, made -> made.partOf(0, 0));
     }
 
     private static void tell() {
@@ -147,11 +62,11 @@ public final class PromiseTests {
                 is("told", one.told(0), 64 * predicate + pair);
             }
         }
-        asksForFacts(laws, "tell", laws::tell);
+        asksForFacts(laws, "tell", FollowedLaws::tell);
         FollowedLaws full = laws("a00;a01;a02;a03;a10;a11;a12;a13;a20;a21;a22");
         is("the 12th", full.tell(0, 2, 3), 12);
-        refuses(full, "the 13th", STATE, () -> full.tell(0, 3, 0));
-        refuses(full, "no fact, and 12 there", ARGUMENT, () -> full.tell(0, 0, 5));
+        refuses(full, "the 13th", STATE, made -> made.tell(0, 3, 0));
+        refuses(full, "no fact, and 12 there", ARGUMENT, made -> made.tell(0, 0, 5));
         is("one that is there", full.tell(0, 0, 0), 12);
         is("states", full.count(7), 3);
     }
@@ -164,7 +79,7 @@ public final class PromiseTests {
         is("an instance is not told", laws.untell(0, 0, 0), 0);
         is("also those are saved", laws.count(7), 4);
         is("found is less, too", laws.count(6), 20);
-        asksForFacts(laws, "untell", laws::untell);
+        asksForFacts(laws, "untell", FollowedLaws::untell);
         laws.undo();
         laws.undo();
         laws.undo();
@@ -180,15 +95,15 @@ public final class PromiseTests {
         is("no second part", laws.partOf(1, 2), NONE);
         int[] wrong = {-1, 256, Integer.MIN_VALUE, Integer.MAX_VALUE};
         for (int atom : wrong) {
-            refuses(laws, "rule head " + atom, ARGUMENT, () -> laws.rule(atom, 0));
-            refuses(laws, "rule part " + atom, ARGUMENT, () -> laws.rule(0, atom));
+            refuses(laws, "rule head " + atom, ARGUMENT, made -> made.rule(atom, 0));
+            refuses(laws, "rule part " + atom, ARGUMENT, made -> made.rule(0, atom));
         }
         is("the third, alike", laws.rule(255, 0), 2);
         laws.rule(0, 0);
         laws.rule(0, 0);
         is("the sixth", laws.rule(0, 0), 5);
-        refuses(laws, "the seventh", STATE, () -> laws.rule(0, 0));
-        refuses(laws, "wrong, and six there", ARGUMENT, () -> laws.rule(0, 256));
+        refuses(laws, "the seventh", STATE, made -> made.rule(0, 0));
+        refuses(laws, "wrong, and six there", ARGUMENT, made -> made.rule(0, 256));
         is("saved", laws.count(7), 6);
         is("undo", laws.undo(), 5);
         is("rules", laws.count(1), 5);
@@ -202,30 +117,30 @@ public final class PromiseTests {
         is("other", laws.partOf(0, 2), 255);
         int[] wrong = {-1, 256, Integer.MIN_VALUE, Integer.MAX_VALUE};
         for (int atom : wrong) {
-            refuses(laws, "joining head " + atom, ARGUMENT, () -> laws.joining(atom, 0, 0));
-            refuses(laws, "joining one " + atom, ARGUMENT, () -> laws.joining(0, atom, 0));
-            refuses(laws, "joining other " + atom, ARGUMENT, () -> laws.joining(0, 0, atom));
+            refuses(laws, "joining head " + atom, ARGUMENT, made -> made.joining(atom, 0, 0));
+            refuses(laws, "joining one " + atom, ARGUMENT, made -> made.joining(0, atom, 0));
+            refuses(laws, "joining other " + atom, ARGUMENT, made -> made.joining(0, 0, atom));
         }
         for (int k = 1; k < 6; k++) {
             is("one more", laws.joining(0, 0, 0), k);
         }
-        refuses(laws, "the seventh", STATE, () -> laws.joining(0, 0, 0));
-        refuses(laws, "wrong, and six there", ARGUMENT, () -> laws.joining(0, 0, -1));
+        refuses(laws, "the seventh", STATE, made -> made.joining(0, 0, 0));
+        refuses(laws, "wrong, and six there", ARGUMENT, made -> made.joining(0, 0, -1));
         is("saved", laws.count(7), 6);
     }
 
     private static void remove() {
         FollowedLaws laws = laws("a00;b00<a00;c00<b00&b00;d00<c00");
-        refuses(laws, "remove(-1)", INDEX, () -> laws.remove(-1));
-        refuses(laws, "remove(3)", INDEX, () -> laws.remove(3));
-        refuses(laws, "remove of much", INDEX, () -> laws.remove(Integer.MAX_VALUE));
-        refuses(laws, "remove of little", INDEX, () -> laws.remove(Integer.MIN_VALUE));
+        refuses(laws, "remove(-1)", INDEX, made -> made.remove(-1));
+        refuses(laws, "remove(3)", INDEX, made -> made.remove(3));
+        refuses(laws, "remove of much", INDEX, made -> made.remove(Integer.MAX_VALUE));
+        refuses(laws, "remove of little", INDEX, made -> made.remove(Integer.MIN_VALUE));
         is("remove", laws.remove(0), 2);
         is("the next is number 0", laws.partOf(0, 0), 128);
         is("with its second part", laws.partOf(0, 2), 64);
         is("and the next number 1", laws.partOf(1, 0), 192);
         is("which has one part", laws.partOf(1, 2), NONE);
-        refuses(laws, "partOf(2, 0)", INDEX, () -> laws.partOf(2, 0));
+        refuses(laws, "partOf(2, 0)", INDEX, made -> made.partOf(2, 0));
         same("nothing follows any more", foundIn(laws), "a00");
         is("remove the last", laws.remove(1), 1);
         is("saved", laws.count(7), 3);
@@ -249,7 +164,7 @@ public final class PromiseTests {
         is("settle of 12", twelve.settle(), 12);
         twelve.rule(64 + 9, 64);
         is("13 are found", twelve.count(2), 13);
-        refuses(twelve, "settle of 13", STATE, twelve::settle);
+        refuses(twelve, "settle of 13", STATE, FollowedLaws::settle);
     }
 
     private static void append() {
@@ -258,13 +173,13 @@ public final class PromiseTests {
         is("highest code", laws.append(126), 2);
         int[] wrong = {32, 127, 0, -1, 97 + 256, Integer.MIN_VALUE, Integer.MAX_VALUE};
         for (int code : wrong) {
-            refuses(laws, "append(" + code + ")", ARGUMENT, () -> laws.append(code));
+            refuses(laws, "append(" + code + ")", ARGUMENT, made -> made.append(code));
         }
         for (int length = 3; length <= 60; length++) {
             is("append", laws.append('a'), length);
         }
-        refuses(laws, "the 61st", STATE, () -> laws.append('a'));
-        refuses(laws, "no code, and 60 there", ARGUMENT, () -> laws.append(32));
+        refuses(laws, "the 61st", STATE, made -> made.append('a'));
+        refuses(laws, "no code, and 60 there", ARGUMENT, made -> made.append(32));
         is("nothing is saved", laws.count(7), 0);
     }
 
@@ -325,7 +240,7 @@ public final class PromiseTests {
     private static void refusesText(String text) {
         FollowedLaws laws = laws("a11");
         type(laws, text);
-        refuses(laws, "read of " + text, ARGUMENT, laws::read);
+        refuses(laws, "read of " + text, ARGUMENT, FollowedLaws::read);
     }
 
     private static void read() {
@@ -351,18 +266,18 @@ public final class PromiseTests {
         }
         FollowedLaws full = laws("a00;a01;a02;a03;a10;a11;a12;a13;a20;a21;a22");
         type(full, "a00;b00;b01");
-        refuses(full, "read of a 13th", STATE, full::read);
+        refuses(full, "read of a 13th", STATE, FollowedLaws::read);
         full.clearBuffer();
         type(full, "a00;b00;b00");
         is("read of a 12th", full.read(), 3);
         FollowedLaws rules = laws("a00<a00;a00<a00;a00<a00;a00<a00");
         type(rules, "b00;a00<a00;a00<a00;a00<a00");
-        refuses(rules, "read of a 7th rule", STATE, rules::read);
+        refuses(rules, "read of a 7th rule", STATE, FollowedLaws::read);
         rules.clearBuffer();
         type(rules, "b00;a00<a00;a00<a00");
         is("read of a 6th rule", rules.read(), 3);
         type(rules, "a00<a00;~");
-        refuses(rules, "an error, and no room", ARGUMENT, rules::read);
+        refuses(rules, "an error, and no room", ARGUMENT, FollowedLaws::read);
     }
 
     private static void undo() {
@@ -378,7 +293,7 @@ public final class PromiseTests {
         for (int left = 5; left >= 0; left--) {
             is("undo", laws.undo(), left);
         }
-        refuses(laws, "undo", STATE, laws::undo);
+        refuses(laws, "undo", STATE, FollowedLaws::undo);
         same("the oldest was dropped", toldIn(laws), "a00");
         is("its rule is there", laws.partOf(0, 0), 64);
         is("and no other one", laws.count(1), 1);
@@ -414,8 +329,8 @@ public final class PromiseTests {
         is("told(5)", laws.told(5), 192 + 27);
         is("told(6)", laws.told(6), NONE);
         is("told of much", laws.told(Integer.MAX_VALUE), NONE);
-        refuses(laws, "told(-1)", ARGUMENT, () -> laws.told(-1));
-        refuses(laws, "told of little", ARGUMENT, () -> laws.told(Integer.MIN_VALUE));
+        refuses(laws, "told(-1)", ARGUMENT, made -> made.told(-1));
+        refuses(laws, "told of little", ARGUMENT, made -> made.told(Integer.MIN_VALUE));
     }
 
     private static void partOf() {
@@ -426,12 +341,12 @@ public final class PromiseTests {
                 is("partOf(" + rule + ", " + part + ")", laws.partOf(rule, part), want[rule][part]);
             }
         }
-        refuses(laws, "partOf(2, 0)", INDEX, () -> laws.partOf(2, 0));
-        refuses(laws, "partOf(-1, 0)", INDEX, () -> laws.partOf(-1, 0));
-        refuses(laws, "partOf(2, 3)", INDEX, () -> laws.partOf(2, 3));
-        refuses(laws, "partOf of much", INDEX, () -> laws.partOf(Integer.MAX_VALUE, 0));
-        refuses(laws, "partOf(1, 3)", ARGUMENT, () -> laws.partOf(1, 3));
-        refuses(laws, "partOf(1, -1)", ARGUMENT, () -> laws.partOf(1, -1));
+        refuses(laws, "partOf(2, 0)", INDEX, made -> made.partOf(2, 0));
+        refuses(laws, "partOf(-1, 0)", INDEX, made -> made.partOf(-1, 0));
+        refuses(laws, "partOf(2, 3)", INDEX, made -> made.partOf(2, 3));
+        refuses(laws, "partOf of much", INDEX, made -> made.partOf(Integer.MAX_VALUE, 0));
+        refuses(laws, "partOf(1, 3)", ARGUMENT, made -> made.partOf(1, 3));
+        refuses(laws, "partOf(1, -1)", ARGUMENT, made -> made.partOf(1, -1));
     }
 
     private static void found() {
@@ -448,11 +363,11 @@ public final class PromiseTests {
             int asked = what;
             is("not so many", laws.found(3, what), NONE);
             is("not nearly so many", laws.found(Integer.MAX_VALUE, what), NONE);
-            refuses(laws, "found(-1, " + what + ")", ARGUMENT, () -> laws.found(-1, asked));
+            refuses(laws, "found(-1, " + what + ")", ARGUMENT, made -> made.found(-1, asked));
         }
-        refuses(laws, "found(0, 4)", ARGUMENT, () -> laws.found(0, 4));
-        refuses(laws, "found(0, -1)", ARGUMENT, () -> laws.found(0, -1));
-        refuses(laws, "found(9, 4)", ARGUMENT, () -> laws.found(9, 4));
+        refuses(laws, "found(0, 4)", ARGUMENT, made -> made.found(0, 4));
+        refuses(laws, "found(0, -1)", ARGUMENT, made -> made.found(0, -1));
+        refuses(laws, "found(9, 4)", ARGUMENT, made -> made.found(9, 4));
         is("16 instances", laws("axy").found(0, 3), 16);
         is("4 on the diagonal", laws("axx").found(0, 3), 4);
         is("4 in a column", laws("ax3").found(0, 3), 4);
@@ -521,8 +436,8 @@ public final class PromiseTests {
         for (int what = 0; what <= 7; what++) {
             is("count(" + what + ")", laws.count(what), want[what]);
         }
-        refuses(laws, "count(8)", ARGUMENT, () -> laws.count(8));
-        refuses(laws, "count(-1)", ARGUMENT, () -> laws.count(-1));
+        refuses(laws, "count(8)", ARGUMENT, made -> made.count(8));
+        refuses(laws, "count(-1)", ARGUMENT, made -> made.count(-1));
         FollowedLaws pairs = laws("a00;a11;b22;c33<axy&azw;d00<bxy&axy");
         is("4 matches a round, in 2 rounds", pairs.count(4), 8);
         is("matches of the round that finds nothing", laws("a00;a00<a00").count(4), 1);
@@ -556,7 +471,7 @@ public final class PromiseTests {
         FollowedLaws row = laws("a0x");
         is("xx is no instance of 0x", row.follows(0, 4, 4), 0);
         is("x0 is none", row.follows(0, 4, 0), 0);
-        asksForFacts(laws, "follows", laws::follows);
+        asksForFacts(laws, "follows", FollowedLaws::follows);
     }
 
     private static void instances() {
@@ -570,7 +485,7 @@ public final class PromiseTests {
         is("found by a rule", laws.instances(1, 4, 5), 0b1000_0100_0010_0001);
         is("none", laws.instances(2, 4, 5), 0);
         is("all of all", laws("dxy").instances(3, 4, 5), 0xffff);
-        asksForFacts(laws, "instances", laws::instances);
+        asksForFacts(laws, "instances", FollowedLaws::instances);
     }
 
     private static void behind() {
@@ -581,8 +496,8 @@ public final class PromiseTests {
         }
         is("behind of much", laws.behind(Integer.MAX_VALUE), 4);
         is("behind of none", new FollowedLaws().behind(0), 0);
-        refuses(laws, "behind(-1)", ARGUMENT, () -> laws.behind(-1));
-        refuses(laws, "behind of little", ARGUMENT, () -> laws.behind(Integer.MIN_VALUE));
+        refuses(laws, "behind(-1)", ARGUMENT, made -> made.behind(-1));
+        refuses(laws, "behind of little", ARGUMENT, made -> made.behind(Integer.MIN_VALUE));
     }
 
     private static void without() {
@@ -595,12 +510,12 @@ public final class PromiseTests {
             }
         }
         is("nothing is changed", laws.digest() == ahead ? 1 : 0, 1);
-        refuses(laws, "without(4, 0)", INDEX, () -> laws.without(4, 0));
-        refuses(laws, "without(-1, 0)", INDEX, () -> laws.without(-1, 0));
-        refuses(laws, "without(4, 3)", INDEX, () -> laws.without(4, 3));
-        refuses(laws, "without of much", INDEX, () -> laws.without(Integer.MAX_VALUE, 0));
-        refuses(laws, "without(0, 3)", ARGUMENT, () -> laws.without(0, 3));
-        refuses(laws, "without(0, -1)", ARGUMENT, () -> laws.without(0, -1));
+        refuses(laws, "without(4, 0)", INDEX, made -> made.without(4, 0));
+        refuses(laws, "without(-1, 0)", INDEX, made -> made.without(-1, 0));
+        refuses(laws, "without(4, 3)", INDEX, made -> made.without(4, 3));
+        refuses(laws, "without of much", INDEX, made -> made.without(Integer.MAX_VALUE, 0));
+        refuses(laws, "without(0, 3)", ARGUMENT, made -> made.without(0, 3));
+        refuses(laws, "without(0, -1)", ARGUMENT, made -> made.without(0, -1));
     }
 
     private static void spare() {
@@ -615,8 +530,8 @@ public final class PromiseTests {
         is("by a round about", laws("a00;b00;b00<a00;a00<b00").spare(0), 1);
         is("not by itself", laws("a00;b00<a00;a00<b00").spare(0), 0);
         is("not nearly so many", laws.spare(Integer.MAX_VALUE), NONE);
-        refuses(laws, "spare(-1)", ARGUMENT, () -> laws.spare(-1));
-        refuses(laws, "spare of little", ARGUMENT, () -> laws.spare(Integer.MIN_VALUE));
+        refuses(laws, "spare(-1)", ARGUMENT, made -> made.spare(-1));
+        refuses(laws, "spare of little", ARGUMENT, made -> made.spare(Integer.MIN_VALUE));
     }
 
     private static void richest() {
@@ -632,9 +547,9 @@ public final class PromiseTests {
         FollowedLaws full = laws("b00;b01;b02;b03;b10;b11;b12;b13;b20;b21;b22;b23", "cxy<a11");
         is("also with 12", full.richest(0), 9);
         is("12 stay", full.count(0), 12);
-        refuses(laws, "richest(4)", ARGUMENT, () -> laws.richest(4));
-        refuses(laws, "richest(-1)", ARGUMENT, () -> laws.richest(-1));
-        refuses(laws, "richest of little", ARGUMENT, () -> laws.richest(Integer.MIN_VALUE));
+        refuses(laws, "richest(4)", ARGUMENT, made -> made.richest(4));
+        refuses(laws, "richest(-1)", ARGUMENT, made -> made.richest(-1));
+        refuses(laws, "richest of little", ARGUMENT, made -> made.richest(Integer.MIN_VALUE));
     }
 
     private static void byRules() {
@@ -644,48 +559,6 @@ public final class PromiseTests {
         is("a told one that a rule finds", laws("a00;b00;b00<a00;c00<a00").byRules(), 1.0 / 3.0);
         is("a told one under a stronger one", laws("a00;axy<a00").byRules(), 15.0 / 16.0);
         is("nothing there", laws("a00<b00").byRules(), 0.0);
-    }
-
-    private static long hash(FollowedLaws laws, String buffer) {
-        java.util.List<Long> values = new java.util.ArrayList<>();
-        for (int what = 0; what <= 7; what++) {
-            values.add((long) laws.count(what));
-        }
-        for (int place = 0; place < laws.count(0); place++) {
-            values.add((long) laws.told(place));
-            values.add((long) laws.spare(place));
-        }
-        for (int rule = 0; rule < laws.count(1); rule++) {
-            for (int part = 0; part <= 2; part++) {
-                values.add((long) laws.partOf(rule, part));
-            }
-            for (int what = 0; what <= 2; what++) {
-                values.add((long) laws.without(rule, what));
-            }
-        }
-        for (int place = 0; place < laws.count(2); place++) {
-            for (int what = 0; what <= 3; what++) {
-                values.add((long) laws.found(place, what));
-            }
-        }
-        for (int round = 0; round <= 3; round++) {
-            values.add((long) laws.behind(round));
-        }
-        for (int predicate = 0; predicate < 4; predicate++) {
-            values.add((long) laws.follows(predicate, 4, 4));
-            values.add((long) laws.instances(predicate, 4, 5));
-        }
-        values.add((long) laws.richest(0));
-        values.add(Double.doubleToLongBits(laws.byRules()));
-        values.add((long) buffer.length());
-        for (char sign : buffer.toCharArray()) {
-            values.add((long) sign);
-        }
-        long hash = 2833;
-        for (long value : values) {
-            hash = 31 * hash + value;
-        }
-        return hash;
     }
 
     private static void digestIs(String buffer, String... texts) {
