@@ -349,18 +349,24 @@ public final class FollowedLaws {
         return laws.ruleCount() - 1;
     }
 
-    /** Saves the state for undo; the oldest one makes room, and its rows are used again. */
     private void save() {
         if (savedCount >= saved.length) {
-            Laws oldest = saved[0];
-            for (int k = 1; k < saved.length; k++) {
-                saved[k - 1] = saved[k];
-            }
-            saved[saved.length - 1] = oldest;
-            savedCount = saved.length - 1;
+            dropOldest();
         }
-        saved[savedCount].copyOf(laws);
-        savedCount++;
+        if (savedCount >= 0 && savedCount < saved.length) {
+            saved[savedCount].copyOf(laws);
+            savedCount++;
+        }
+    }
+
+    /** The rows of the oldest saved state go behind the others, to be used again. */
+    private void dropOldest() {
+        Laws oldest = saved[0];
+        for (int k = 1; k < saved.length; k++) {
+            saved[k - 1] = saved[k];
+        }
+        saved[saved.length - 1] = oldest;
+        savedCount = saved.length - 1;
     }
 
     /**
