@@ -48,6 +48,7 @@ public final class LanguageTests extends TreePathScanner<Void, Void> {
             tests.depths();
         }
         face();
+        faceOfDocument(Files.readString(source).replaceAll("\\s+", " "));
         need(Files.readString(source).chars().allMatch(sign -> sign < 128), "signs are ASCII");
         System.out.println("LanguageTests: " + (wrong == 0 ? "all rules that can be told hold" : wrong + " broken"));
         if (wrong != 0) {
@@ -102,6 +103,18 @@ public final class LanguageTests extends TreePathScanner<Void, Void> {
                 need(one == face && !hidden(m.getModifiers()) || !names.contains(m.getName()), m + " has its own name");
             }
         }
+    }
+
+    /** Each line of the document's face stands in the source, with the exceptions that it names. */
+    private static void faceOfDocument(String source) throws java.io.IOException {
+        String document = Files.readString(Path.of("../shared/DOC.md"));
+        int lines = 0;
+        for (String line : document.replaceFirst("(?s).*?```java\n", "").replaceFirst("(?s)\n\\}\n```.*", "").split("\n")) {
+            String want = line.trim().replaceFirst("\\);$", ") {").replaceFirst("Exception;$", "Exception {");
+            need(source.contains(want), "the source has: " + want);
+            lines++;
+        }
+        need(lines == FACE.length + 3, "the document's face has " + lines + " lines");
     }
 
     // ---- the tree
